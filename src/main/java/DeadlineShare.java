@@ -787,7 +787,7 @@ public final class DeadlineShare {
         private boolean readStep(Tape text, boolean oneTooMany) {
             skipBlanks(text);
             int wordEnd = endOfRow(text, 'a', 'z');
-            int kind = oneTooMany ? NONE : kindOf(text, wordEnd);
+            int kind = oneTooMany ? NONE : kindOfWord(text, wordEnd);
             if (kind == NONE) {
                 return false;
             }
@@ -817,7 +817,7 @@ public final class DeadlineShare {
             return end;
         }
 
-        private int kindOf(Tape text, int wordEnd) {
+        private int kindOfWord(Tape text, int wordEnd) {
             for (int kind = 0; kind < Script.KINDS; kind++) {
                 if (isWord(text, wordEnd, Script.wordOf(kind))) {
                     return kind;
@@ -1148,7 +1148,7 @@ public final class DeadlineShare {
         int weightOfAll() {
             int w = 0;
             for (int i = 0; i < count; i++) {
-                if (tasks[i].isOn()) {
+                if (tasks[i].state == ON) {
                     w += tasks[i].weight;
                 }
             }
@@ -1159,7 +1159,7 @@ public final class DeadlineShare {
         private long sumOfV() {
             long sum = 0L;
             for (int i = 0; i < count; i++) {
-                if (tasks[i].isOn()) {
+                if (tasks[i].state == ON) {
                     sum += tasks[i].weight * tasks[i].v;
                 }
             }
@@ -1222,7 +1222,7 @@ public final class DeadlineShare {
         }
 
         boolean canWeigh(Task t, int weight) {
-            return !t.isOn() || hasRoomFor(weight - t.weight);
+            return !t.isOn() || weightOfAll() - t.weight + weight <= MOST_TOGETHER;
         }
 
         void enter(Task t) {
@@ -1236,7 +1236,7 @@ public final class DeadlineShare {
 
         void depart(Task t, int newState) {
             int w = weightOfAll();
-            t.lag = lagTimesW(t);
+            t.lag = t.weight * (sumOfV() - t.v * w);
             t.lagWeight = w;
             if (w == t.weight) {
                 rest = t.v;
@@ -1250,7 +1250,8 @@ public final class DeadlineShare {
         void weighAnew(Task t, int weight) {
             if (t.isOn()) {
                 int w = weightOfAll();
-                t.v = difference(sumOfV(), w, lagTimesW(t), (long) w * weight);
+                long sum = sumOfV();
+                t.v = difference(sum, w, t.weight * (sum - t.v * w), (long) w * weight);
             }
             t.weight = weight;
         }
