@@ -873,8 +873,6 @@ public final class DeadlineShare {
 
         Task(int number) {
             this.number = number;
-            lagWeight = 1;
-            budget = NONE;
         }
 
         void startAnew(int newWeight, int newSlice) {
@@ -1079,9 +1077,8 @@ public final class DeadlineShare {
                 case 2: return p.firstDeadline(false);
                 case 3: return p.nextInTurn();
                 case 4: return byDraw(p);
-                default: break;
+                default: return terms.mode == 1 && p.holder != NONE ? p.holder : p.firstDeadline(true);
             }
-            return terms.mode == 1 && p.holder != NONE ? p.holder : p.firstDeadline(true);
         }
 
         private int byDraw(State p) {
@@ -1376,11 +1373,11 @@ public final class DeadlineShare {
 
         /** The TASK in whose part of W the place falls, each as wide as its WEIGHT. */
         int atWeight(int place) {
-            int rest = place;
+            int beyond = place;
             for (int i = 0; i < count; i++) {
                 if (tasks[i].isOn()) {
-                    rest -= tasks[i].weight;
-                    if (rest < 0) {
+                    beyond -= tasks[i].weight;
+                    if (beyond < 0) {
                         return i;
                     }
                 }

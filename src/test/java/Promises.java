@@ -14,6 +14,7 @@ public final class Promises {
         task();
         join();
         joinWithLag();
+        joinBelowZero();
         leave();
         weigh();
         weighIsCut();
@@ -258,6 +259,33 @@ public final class Promises {
         due(7, "v by REST", x.exact(1, 0), 2 * U);
     }
 
+    /** 1, 2 and 3 fall back behind 0, which yields and is at U; then they come again, one behind the other. */
+    private static void joinBelowZero() {
+        DeadlineShare x = joined(1, 1, 8, 1, 7, 1, 8, 1);
+        x.yields(0);
+        due(22, "LAG of 2 times 24", x.exact(2, 2), 7 * U);
+        x.leave(2);
+        due(22, "LAG of 3 times 17", x.exact(3, 2), 8 * U);
+        x.leave(3);
+        due(22, "LAG of 1 times 9", x.exact(1, 2), 8 * U);
+        x.leave(1);
+        x.weigh(1, 1);
+        x.weigh(2, 8);
+        x.weigh(3, 1);
+        x.join(1);
+        due(7, "v of 1: U less 8 U by 9", x.exact(1, 0), U / 9);
+        x.leave(0);
+        x.join(3);
+        due(7, "v of 3: U by 9 less 8 U by 17", x.exact(3, 0), -55 * (U / 153));
+        x.leave(1);
+        due(23, "V is below 0", x.time(0), -55 * (U / 153));
+        x.join(2);
+        due(7, "v of 2: that less 7 U by 24 by 8, cut downwards", x.exact(2, 0), Math.floorDiv(-11631 * U, 29376L));
+        due(23, "V, cut downwards", x.time(0), Math.floorDiv(-55 * (U / 153) + 8 * x.exact(2, 0), 9L));
+        due(23, "and above that", x.time(1), Math.floorMod(-55 * (U / 153) + 8 * x.exact(2, 0), 9L));
+        due(24, "eligible()", x.eligible(), 4);
+    }
+
     private static void leave() {
         DeadlineShare x = joined(2, 3, 5, 3);
         due(8, "leave(2)", x.leave(2), -2);
@@ -375,6 +403,10 @@ public final class Promises {
         due(11, "of(2, 1)", x.of(2, 1), 4);
         for (int i = 0; i < 5; i++) due(18, "undo() of a wish", x.undo(), 7);
         due(11, "of(0, 1)", x.of(0, 1), 10);
+        x = joined(1, 10);
+        due(11, "wish(0, 7) alone", x.wish(0, 7), 7);
+        x.leave(0);
+        due(11, "wish(0, 20) with none ON", x.wish(0, 20), 20);
     }
 
     private static void yields() {
@@ -396,6 +428,7 @@ public final class Promises {
         due(13, "quota(1, 51, 60): -1 ahead of -2", x.quota(1, 51, 60), -1);
         due(13, "quota(0, -1, 5)", x.quota(0, -1, 5), -1);
         due(13, "quota(0, 3, 3)", x.quota(0, 3, 3), -1);
+        due(13, "quota(0, 1, 1)", x.quota(0, 1, 1), -1);
         due(13, "quota(0, 3, 61)", x.quota(0, 3, 61), -1);
         due(13, "quota(1, 3, 4)", x.quota(1, 3, 4), -2);
         due(13, "quota(0, 50, 60)", x.quota(0, 50, 60), NONE);
@@ -410,6 +443,8 @@ public final class Promises {
         due(13, "of(0, 13)", x.of(0, 13), 0);
         due(13, "of(0, 14)", x.of(0, 14), 0);
         due(13, "quota(0, 0, 0)", x.quota(0, 0, 0), NONE);
+        due(13, "quota(0, 1, 2)", x.quota(0, 1, 2), NONE);
+        due(13, "of(0, 12)", x.of(0, 12), 1);
         due(37, "status()", x.status(), 0);
     }
 
@@ -587,10 +622,10 @@ public final class Promises {
         x.task(1, 5);
         due(15, "listing(1)", x.listing(1), -2);
         due(15, "listing(0)", x.listing(0), -4);
-        due(14, "script(0)", script(x, 0, "  run   07 ,nap2,weigh 8, slice20 ,again 9  "), 5);
+        due(14, "script(0)", script(x, 0, "  run   07 ,nap10,weigh 8, slice20 ,again 9  "), 5);
         x.feed(1, 1, 1, 1, 1);
-        due(15, "listing(0)", x.listing(0), 36);
-        dueText(15, "the TAPE", onTape(x), "run 7,nap 2,weigh 8,slice 20,again 9");
+        due(15, "listing(0)", x.listing(0), 37);
+        dueText(15, "the TAPE", onTape(x), "run 7,nap 10,weigh 8,slice 20,again 9");
         due(14, "it can be read again", x.script(0), 5);
         due(15, "no act", x.undo(), 5);
     }
@@ -607,11 +642,11 @@ public final class Promises {
     private static void fault() {
         String eight = "run 1,run 1,run 1,run 1,run 1,run 1,run 1,run 1";
         String[] texts = {"", "   ", "run", "run ", "run 0", "run 00", "run 100", "nap 100", "weigh 9", "slice 21", "again 10",
-            "again 0", "runs 1", "ru", "Run 1", "run 1 2", "run 1;nap 1", "run 1,,nap 1", ",run 1", "run 1,nap 1,",
+            "again 0", "runs 1", "ru", "xun 1", "Run 1", "run 1 2", "run 1;nap 1", "run 1,,nap 1", ",run 1", "run 1,nap 1,",
             "run 1,nap 1, ", "run 1 nap 1", "run 99999999999999999999", "run 4294967297", "ru n 1", "run -1", "run 1,4", "5",
             "run run", "run,1", "  walk 1", "run 1, run" + (char) 233 + " 2", eight + ",run 1", eight + ", x", eight + ",", eight + " 4", "run 1\t"};
         int[] places = {0, 3, 3, 4, 4, 4, 4, 4, 6, 6, 6,
-            6, 0, 0, 0, 6, 5, 6, 0, 12,
+            6, 0, 0, 0, 0, 6, 5, 6, 0, 12,
             13, 6, 4, 4, 0, 4, 6, 0,
             4, 3, 2, 10, 48, 49, 48, 48, 5};
         for (int i = 0; i < texts.length; i++) faultAt(texts[i], places[i]);
@@ -698,6 +733,20 @@ public final class Promises {
         due(31, "ahead(40)", x.ahead(40), NONE);
         due(32, "finish(0) is not by then", x.finish(0), NONE);
         due(33, "due(0)", x.due(0), 20);
+        script(x, 0, "run 39,run 1");
+        due(32, "finish(0): not past TIME 9,999", x.finish(0), NONE);
+        script(x, 0, "run 39");
+        due(32, "finish(0): up to TIME 9,999", x.finish(0), 39);
+        x.ticks(20);
+        x.ticks(1);
+        due(33, "due(0): not past TIME 9,999", x.due(0), NONE);
+        x.undo();
+        due(33, "due(0)", x.due(0), NONE);
+        x.slice(0, 19);
+        due(33, "due(0): up to TIME 9,999", x.due(0), 19);
+        x.undo();
+        x.undo();
+        script(x, 0, "run 30,nap 5,run 9");
         due(34, "least(0, 1, 40)", x.least(0, 1, 40), NONE);
         due(34, "least(0, 34, 39)", x.least(0, 34, 39), 1);
         due(35, "would(0, 40, 3)", x.would(0, 40, 3), REFUSED_ON_PAPER);
@@ -796,6 +845,54 @@ public final class Promises {
         due(18, "task() behind it is new", x.task(1, 1), 0);
         due(18, "of(0, 4)", x.of(0, 4), 0);
         due(18, "exact(0, 3)", x.exact(0, 3), 0);
+        undoAll();
+    }
+
+    /** A busy object: everything that can be told is as it was, behind each undo() and behind back(). */
+    private static void undoAll() {
+        DeadlineShare x = joined(1, 2, 3, 4, 2, 3);
+        script(x, 0, "run 2,nap 30,run 5");
+        x.quota(2, 2, 30);
+        x.yields(1);
+        x.ticks(40);
+        x.ticks(9);
+        String before = all(x);
+        x.image(1);
+        x.ticks(7);
+        x.leave(1);
+        x.ticks(60);
+        x.join(1);
+        x.yields(1);
+        for (int i = 0; i < 5; i++) x.undo();
+        dueText(18, "all is as it was", all(x), before);
+        String after = all(x);
+        x.leave(0);
+        x.leave(1);
+        x.leave(2);
+        x.ticks(60);
+        for (int i = 0; i < 4; i++) x.undo();
+        dueText(18, "all is as it was", all(x), after);
+        x.ticks(60);
+        x.leave(1);
+        x.join(1);
+        x.leave(0);
+        x.back(1);
+        dueText(20, "all is as it was", all(x), before);
+        DeadlineShare y = new DeadlineShare();
+        y.image(0);
+        y.task(8, 20);
+        y.quota(0, 1, 3);
+        y.join(0);
+        script(y, 0, "run 2,nap 1,run 9");
+        y.ticks(20);
+        y.back(0);
+        y.task(8, 20);
+        DeadlineShare z = new DeadlineShare();
+        z.task(8, 20);
+        dueText(6, "a new task has nothing of one that is gone", all(y), all(z));
+        y.join(0);
+        z.join(0);
+        dueText(6, "nor when it joins", all(y), all(z));
     }
 
     private static void undoTen() {
@@ -1007,6 +1104,17 @@ public final class Promises {
         due(30, "worst(0, 1): not over TICKS in which it was OFF", x.worst(0, 1), -3 * U / 2);
         due(30, "worst(0, 0)", x.worst(0, 0), U / 2);
         due(30, "worst(1, 0)", x.worst(1, 0), 3 * U / 2);
+        x = joined(1, 1, 1, 1);
+        x.terms(1, 0);
+        x.ticks(2);
+        x.leave(1);
+        x.ticks(1);
+        x.join(1);
+        x.yields(0);
+        x.ticks(1);
+        dueText(30, "ran", whoRan(x, 0, 4), "0101");
+        due(30, "worst(1, 0): no window over TICK 2", x.worst(1, 0), U / 2);
+        due(30, "worst(1, 1)", x.worst(1, 1), -U / 2);
         due(30, "worst(0, 2)", x.worst(0, 2), NOTHING);
         due(30, "worst(0, -1)", x.worst(0, -1), NOTHING);
         due(30, "worst(2, 0)", x.worst(2, 0), NOTHING);
@@ -1054,6 +1162,16 @@ public final class Promises {
         x.quota(0, 1, 60);
         x.ticks(1);
         due(33, "due(0) of one that is throttled", x.due(0), 60);
+        due(33, "due(0) in 500", napping(99, 4), 500);
+        due(33, "due(0) not in 500", napping(99, 5), NONE);
+    }
+
+    /** due() of one that naps five times, then runs for a slice. */
+    private static int napping(int nap, int slice) {
+        DeadlineShare x = new DeadlineShare();
+        x.task(1, 1 + slice);
+        script(x, 0, "nap " + nap + ",again 4,run 99");
+        return x.due(0);
     }
 
     private static void least() {
@@ -1062,6 +1180,7 @@ public final class Promises {
         due(34, "least(0, 0, 10)", x.least(0, 0, 10), 1);
         due(34, "least(0, 10, 10)", x.least(0, 10, 10), NONE);
         due(34, "least(0, 3, 12)", x.least(0, 3, 12), 1);
+        due(34, "least(0, 12, 12)", x.least(0, 12, 12), NONE);
         due(34, "least(0, 11, 10)", x.least(0, 11, 10), NONE);
         due(34, "least(0, -1, 10)", x.least(0, -1, 10), NONE);
         due(34, "least(0, 0, 0)", x.least(0, 0, 0), NONE);
@@ -1076,6 +1195,10 @@ public final class Promises {
         x.task(1, 1);
         due(34, "OFF it runs never", x.least(4, 1, 60), NONE);
         due(34, "OFF, n 0", x.least(4, 0, 60), 1);
+        x = joined(1, 1, 1, 1);
+        due(34, "least(1, 1, 1): 1 of 1", x.least(1, 1, 1), 2);
+        x = joined(1, 1, 8, 1);
+        due(34, "least(0, 8, 16): the greatest", x.least(0, 8, 16), 8);
     }
 
     private static void would() {
@@ -1098,6 +1221,8 @@ public final class Promises {
         due(35, "would(3, 3, 2): 0 1 0", x.would(3, 3, 2), 3);
         x.leave(0);
         due(35, "would(3, 3, 2): 1 1 1", x.would(3, 3, 2), 0);
+        due(35, "would(3, 3, 3): 1 1 1", x.would(3, 3, 3), 0);
+        due(35, "would(4, 3, 3): 1 1 1", x.would(4, 3, 3), 0);
         x.leave(1);
         due(35, "would(3, 7, 3): IDLE", x.would(3, 7, 3), 7);
         due(35, "would(4, 7, 3): IDLE", x.would(4, 7, 3), 7);
@@ -1111,6 +1236,13 @@ public final class Promises {
         x.terms(0, 1);
         due(35, "would(0, 6, 2) by MODE 1: 000111", x.would(0, 6, 2), 2);
         due(35, "would(1, 6, 2) does not ask it: 010101", x.would(1, 6, 2), 6);
+        x.terms(0, 0);
+        x.ticks(2);
+        due(35, "would(1, 1, 2): like ones by numbers", x.would(1, 1, 2), 1);
+        due(35, "would(2, 1, 2): like ones by numbers", x.would(2, 1, 2), 1);
+        x = joined(2, 1, 1, 1);
+        due(35, "would(0, 1, 0): WEIGHT times 1 by 3", x.would(0, 1, 0), 33);
+        due(35, "would(0, 1, 1): WEIGHT times 1 by 3 less 1 by 2", x.would(0, 1, 1), -34);
     }
 
     /** Parts of 1, 2 and 4 of W, which is 7. */
@@ -1139,9 +1271,15 @@ public final class Promises {
             for (int k = 0; k < 15; k++) b.append(x.of(t, k)).append(' ');
             for (int k = 0; k < 4; k++) b.append(x.exact(t, k)).append(' ');
         }
-        for (int k = 0; k < 17; k++) b.append(x.count(k)).append(' ');
+        for (int k = 0; k < 6; k++) b.append(x.count(k)).append(' ');
         for (int k = 0; k < 4; k++) b.append(x.time(k)).append(' ');
-        return b.append(whoRan(x, 0, 40)).append(x.status()).append(x.fault()).toString();
+        return b.append(x.count(16)).append(' ').append(whoRan(x, 0, 130)).toString();
+    }
+
+    private static String allAndTold(DeadlineShare x) {
+        StringBuilder b = new StringBuilder(all(x));
+        for (int k = 6; k < 16; k++) b.append(' ').append(x.count(k));
+        return b.append(' ').append(x.status()).append(' ').append(x.fault()).toString();
     }
 
     private static void paperChangesNothing() {
@@ -1150,17 +1288,17 @@ public final class Promises {
         x.quota(1, 3, 7);
         x.ticks(11);
         x.join(77);
-        String before = all(x);
+        String before = allAndTold(x);
         x.ahead(30);
-        dueText(31, "ahead(30) changes nothing", all(x), before);
+        dueText(31, "ahead(30) changes nothing", allAndTold(x), before);
         x.finish(0);
-        dueText(32, "finish(0) changes nothing", all(x), before);
+        dueText(32, "finish(0) changes nothing", allAndTold(x), before);
         x.due(1);
-        dueText(33, "due(1) changes nothing", all(x), before);
+        dueText(33, "due(1) changes nothing", allAndTold(x), before);
         x.least(2, 20, 30);
-        dueText(34, "least(2, 20, 30) changes nothing", all(x), before);
+        dueText(34, "least(2, 20, 30) changes nothing", allAndTold(x), before);
         for (int way = 0; way < 5; way++) x.would(way, 30, 0);
-        dueText(35, "would(..) changes nothing", all(x), before);
+        dueText(35, "would(..) changes nothing", allAndTold(x), before);
         StringBuilder told = new StringBuilder();
         for (int n = 1; n <= 25; n++) told.append(x.ahead(n) == NONE ? "." : Integer.toString(x.ahead(n)));
         x.ticks(25);

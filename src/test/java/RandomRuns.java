@@ -6,6 +6,8 @@ public final class RandomRuns {
     private static final int CALLS = 512;
     private static final String[] WORDS = {"run", "nap", "weigh", "slice", "again"};
     private static final int[] MOST = {99, 99, 8, 20, 9};
+    /** Mostly join, leave, weigh, yield: so that lags grow and v falls below 0. */
+    private static final int[] FEW_TICKS = {0, 17, 17, 17, 29, 29, 33, 33, 42, 42, 42, 42, 82, 86, 89, 60, 95};
 
     private final Random r;
     private final int profile;
@@ -16,7 +18,7 @@ public final class RandomRuns {
 
     private RandomRuns(long seed) {
         r = new Random(seed);
-        profile = (int) (seed % 5);
+        profile = (int) (seed % 6);
     }
 
     public static void main(String[] args) {
@@ -36,7 +38,7 @@ public final class RandomRuns {
     private boolean play() {
         for (int i = 0; i < CALLS && !wrong; i++) {
             call(i);
-            if (i % 8 == 0) lookAtAll();
+            if (i % 16 == 0) lookAtAll();
         }
         return !wrong;
     }
@@ -70,6 +72,13 @@ public final class RandomRuns {
 
     private int someTask() { return in(0, Math.max(0, m.count(0) - 1)); }
 
+    /** One that has a SCRIPT, where there is one. */
+    private int scripted() {
+        int from = r.nextInt(12);
+        for (int i = 0; i < 12; i++) if (m.of((from + i) % 12, 10) >= 0) return (from + i) % 12;
+        return someTask();
+    }
+
     private int someTime() {
         int t = (int) m.time(3);
         return r.nextInt(8) == 0 ? in(-2, t + 2) : in(Math.max(0, t - 129), t + 1);
@@ -78,6 +87,7 @@ public final class RandomRuns {
     private void call(int i) {
         int k = r.nextInt(100);
         if (i < 12 && k < 80) k = r.nextInt(3) == 0 ? 20 : 12;
+        if (profile == 5 && i >= 12) k = FEW_TICKS[k % FEW_TICKS.length];
         if (k < 12) paper();
         else if (k < 17) newTask();
         else if (k < 29) join();
@@ -101,7 +111,7 @@ public final class RandomRuns {
     private void weigh() { int t = someTask(), a = in(1, 8); due("weigh(" + t + ", " + a + ")", x.weigh(t, a), m.weigh(t, a)); }
     private void yields() { int t = someTask(); due("yields(" + t + ")", x.yields(t), m.yields(t)); }
     private void undo() { due("undo()", x.undo(), m.undo()); }
-    private void listing() { int t = someTask(); due("listing(" + t + ")", x.listing(t), m.listing(t)); }
+    private void listing() { int t = scripted(); due("listing(" + t + ")", x.listing(t), m.listing(t)); }
 
     private void sliceOrWish() {
         int t = someTask();
@@ -176,7 +186,12 @@ public final class RandomRuns {
     private String blanks() { return r.nextInt(3) == 0 ? "  ".substring(r.nextInt(2)) : ""; }
 
     private void look() {
-        int t = someTask(), a = someTime(), b = someTime(), k = in(0, 12), i = in(0, 199);
+        int t = someTask(), a = someTime(), b = someTime(), k = in(0, 12), i = in(0, Math.max(1, m.count(7)));
+        if (a > b && r.nextInt(8) > 0) {
+            int c = a;
+            a = b;
+            b = c;
+        }
         switch (r.nextInt(9)) {
             case 0 -> due("ran(" + a + ")", x.ran(a), m.ran(a));
             case 1 -> due("service(" + t + ", " + a + ", " + b + ")", x.service(t, a, b), m.service(t, a, b));
@@ -196,7 +211,10 @@ public final class RandomRuns {
         int runs = r.nextInt(6) == 0 ? in(0, few) : r.nextInt(Math.max(1, few / 2));
         switch (r.nextInt(6)) {
             case 0 -> due("ahead(" + n + ")", x.ahead(n), m.ahead(n));
-            case 1 -> due("finish(" + t + ")", x.finish(t), m.finish(t));
+            case 1 -> {
+                int f = scripted();
+                due("finish(" + f + ")", x.finish(f), m.finish(f));
+            }
             case 2 -> due("due(" + t + ")", x.due(t), m.due(t));
             case 3 -> due("least(" + t + ", " + runs + ", " + n + ")", x.least(t, runs, n), m.least(t, runs, n));
             default -> due("would(" + k + ", " + n + ", " + what + ")", x.would(k, n, what), m.would(k, n, what));
@@ -215,6 +233,9 @@ public final class RandomRuns {
         for (int what = -1; what <= 17; what++) see("count(" + what + ")", x.count(what), m.count(what));
         int now = (int) m.time(3);
         for (int t = now - 130; t <= now + 1; t++) see("ran(" + t + ")", x.ran(t), m.ran(t));
+        int one = someTask(), a = someTime(), b = someTime(), edge = r.nextInt(2);
+        see("worst(" + one + ", " + edge + ")", x.worst(one, edge), m.worst(one, edge));
+        see("share(" + one + ", " + a + ", " + b + ")", x.share(one, a, b), m.share(one, a, b));
         see("eligible()", x.eligible(), m.eligible());
         see("status()", x.status(), m.status());
         see("fault()", x.fault(), m.fault());
