@@ -737,15 +737,6 @@ public final class Promises {
         due(32, "finish(0): not past TIME 9,999", x.finish(0), NONE);
         script(x, 0, "run 39");
         due(32, "finish(0): up to TIME 9,999", x.finish(0), 39);
-        x.ticks(20);
-        x.ticks(1);
-        due(33, "due(0): not past TIME 9,999", x.due(0), NONE);
-        x.undo();
-        due(33, "due(0)", x.due(0), NONE);
-        x.slice(0, 19);
-        due(33, "due(0): up to TIME 9,999", x.due(0), 19);
-        x.undo();
-        x.undo();
         script(x, 0, "run 30,nap 5,run 9");
         due(34, "least(0, 1, 40)", x.least(0, 1, 40), NONE);
         due(34, "least(0, 34, 39)", x.least(0, 34, 39), 1);
@@ -760,6 +751,12 @@ public final class Promises {
         due(35, "would(0, 1, 3)", x.would(0, 1, 3), REFUSED_ON_PAPER);
         due(27, "ran(9998)", x.ran(9998), 0);
         due(27, "ran(9999)", x.ran(9999), NONE);
+        x = joined(1, 20);
+        for (int i = 0; i < 166; i++) x.ticks(60);
+        x.ticks(20);
+        due(33, "due(0): not past TIME 9,999", x.due(0), NONE);
+        x.slice(0, 19);
+        due(33, "due(0): up to TIME 9,999", x.due(0), 19);
     }
 
     private static void waits() {
