@@ -332,7 +332,7 @@ public final class DeadlineShare {
         }
         Task t = now.tasks[task];
         if (!t.isOn()) {
-            return what == 3 ? t.lag : NOTHING;
+            return what == 3 ? t.lag.asLong() : NOTHING;
         }
         switch (what) {
             case 0: return t.v;
@@ -452,7 +452,7 @@ public final class DeadlineShare {
         }
         paper.copy(now);
         onPaper.start(way);
-        int lagEdge = 0;
+        long lagEdge = 0L;
         int changes = 0;
         int idle = 0;
         for (int i = 0; i < n; i++) {
@@ -468,7 +468,7 @@ public final class DeadlineShare {
         if (what == 2) {
             return changes;
         }
-        return what == 3 ? idle : lagEdge;
+        return what == 3 ? idle : (int) lagEdge;
     }
 
     // ------------------------------------------------------------ counts
@@ -848,6 +848,75 @@ public final class DeadlineShare {
         }
     }
 
+    /**
+     * A whole number that a long may be too short for: high times 2 to the 32nd, and low, which is
+     * below that. All v are longs, but what they make together is not always one.
+     */
+    private static final class Wide {
+        private static final int HALF = 32;
+        private static final long LOW = (1L << HALF) - 1;
+        private long high;
+        private long low;
+
+        void set(long number) {
+            high = number >> HALF;
+            low = number & LOW;
+        }
+
+        void copy(Wide other) {
+            high = other.high;
+            low = other.low;
+        }
+
+        void addTimes(long times, long number) {
+            long sum = low + times * (number & LOW);
+            high += times * (number >> HALF) + (sum >> HALF);
+            low = sum & LOW;
+        }
+
+        void addTimesWide(long times, Wide other) {
+            long sum = low + times * other.low;
+            high += times * other.high + (sum >> HALF);
+            low = sum & LOW;
+        }
+
+        void multiply(long times) {
+            long product = times * low;
+            high = times * high + (product >> HALF);
+            low = product & LOW;
+        }
+
+        /** Cut downwards; by is short of 2 to the 31st, so that what is over fits above low. */
+        void divide(long by) {
+            if (by > 0) {
+                low = (Math.floorMod(high, by) << HALF | low) / by;
+                high = Math.floorDiv(high, by);
+            }
+        }
+
+        long modulo(long by) {
+            return by > 0 ? (Math.floorMod(high, by) << HALF | low) % by : 0L;
+        }
+
+        boolean isAbove(long number) {
+            long itsHigh = number >> HALF;
+            return high > itsHigh || (high == itsHigh && low > (number & LOW));
+        }
+
+        void keepWithin(long most) {
+            if (isAbove(most)) {
+                set(most);
+            } else if (!isAbove(-most)) {
+                set(-most);
+            }
+        }
+
+        /** The number, or its lower 64 bits if it is none that a long can be. */
+        long asLong() {
+            return high << HALF | low;
+        }
+    }
+
     /** One TASK: what it is, what it got, where its SCRIPT stands. */
     private static final class Task {
         private static final int MOST_WAIT = 999;
@@ -859,7 +928,7 @@ public final class DeadlineShare {
         long v;
         int left;
         /** The LAG with which it left last is lag by lagWeight. */
-        long lag;
+        final Wide lag = new Wide();
         int lagWeight;
         int served;
         int requests;
@@ -882,7 +951,7 @@ public final class DeadlineShare {
             state = OFF;
             v = 0L;
             left = 0;
-            lag = 0L;
+            lag.set(0L);
             lagWeight = 1;
             served = 0;
             requests = 0;
@@ -900,7 +969,7 @@ public final class DeadlineShare {
             state = other.state;
             v = other.v;
             left = other.left;
-            lag = other.lag;
+            lag.copy(other.lag);
             lagWeight = other.lagWeight;
             served = other.served;
             requests = other.requests;
@@ -947,15 +1016,27 @@ public final class DeadlineShare {
             longest = Math.max(longest, wait);
         }
 
-        /** The lag that it brings along, times lagWeight. */
-        long carried(int carry) {
-            long most = slice * UNIT * lagWeight;
-            switch (carry) {
-                case 0: return 0L;
-                case 1: return lag;
-                case 2: return Math.max(-most, Math.min(most, lag));
-                default: return Math.min(0L, lag);
+        /** What is CARRIED, times lagWeight. */
+        void putCarried(int carry, Wide into) {
+            into.copy(lag);
+            if (carry == 0 || (carry == 3 && lag.isAbove(0L))) {
+                into.set(0L);
+            } else if (carry == 2) {
+                into.keepWithin(slice * UNIT * lagWeight);
             }
+        }
+
+        /** By DEADLINES, of like ones by numbers. */
+        boolean comesBefore(Task other) {
+            long mine = deadline();
+            long its = other.deadline();
+            // v is a long, its DEADLINE may be beyond: it has come round then, and is the later one
+            boolean beyond = mine < v;
+            boolean itsBeyond = its < other.v;
+            if (beyond != itsBeyond) {
+                return itsBeyond;
+            }
+            return mine < its || (mine == its && number < other.number);
         }
 
         int tell(int what) {
@@ -1100,6 +1181,9 @@ public final class DeadlineShare {
         private final Terms terms;
         final Task[] tasks = new Task[MOST_TASKS];
         final Log log = new Log();
+        /** Only used within a call: V times W, and one LAG. */
+        private final Wide sum = new Wide();
+        private final Wide part = new Wide();
         int count;
         int time;
         private long rest;
@@ -1152,44 +1236,65 @@ public final class DeadlineShare {
             return w;
         }
 
-        /** V times W. */
-        private long sumOfV() {
-            long sum = 0L;
+        /** V is then sum by what this answers: W, or 1 if none is ON and V is REST. */
+        private int sumUp() {
+            int w = 0;
+            sum.set(0L);
             for (int i = 0; i < count; i++) {
                 if (tasks[i].state == ON) {
-                    sum += tasks[i].weight * tasks[i].v;
+                    sum.addTimes(tasks[i].weight, tasks[i].v);
+                    w += tasks[i].weight;
                 }
             }
-            return sum;
+            if (w > 0) {
+                return w;
+            }
+            sum.set(rest);
+            return 1;
         }
 
         long wholeV() {
-            int w = weightOfAll();
-            return w > 0 ? Math.floorDiv(sumOfV(), (long) w) : rest;
+            int w = sumUp();
+            sum.divide(w);
+            return sum.asLong();
         }
 
         long restOfV() {
-            int w = weightOfAll();
-            return w > 0 ? Math.floorMod(sumOfV(), (long) w) : 0L;
+            int w = sumUp();
+            return sum.modulo(w);
+        }
+
+        /** LAG times W: how far the others are above v, each times its WEIGHT, together, times its own. */
+        private void putLag(Task t, Wide into) {
+            into.set(0L);
+            for (int i = 0; i < count; i++) {
+                if (tasks[i].state == ON) {
+                    into.addTimes(tasks[i].weight, tasks[i].v);
+                    into.addTimes(-tasks[i].weight, t.v);
+                }
+            }
+            into.multiply(t.weight);
         }
 
         long lagTimesW(Task t) {
-            return t.weight * (sumOfV() - t.v * weightOfAll());
+            putLag(t, part);
+            return part.asLong();
         }
 
         /** The greatest (or least) of sofar and all LAGS, in hundredths of UNIT. */
-        int lagEdge(int sofar, boolean greatest) {
+        long lagEdge(long sofar, boolean greatest) {
             int w = weightOfAll();
-            long sum = sumOfV();
             long edge = sofar;
-            for (int i = 0; i < count && w > 0; i++) {
-                Task t = tasks[i];
-                if (t.isOn()) {
-                    long lag = Math.floorDiv(t.weight * (sum - t.v * w) * 5L, w * UNIT_BY_20);
-                    edge = greatest ? Math.max(edge, lag) : Math.min(edge, lag);
+            for (int i = 0; i < count; i++) {
+                if (tasks[i].isOn()) {
+                    putLag(tasks[i], part);
+                    part.multiply(5L);
+                    part.divide(w);
+                    part.divide(UNIT_BY_20);
+                    edge = greatest ? Math.max(edge, part.asLong()) : Math.min(edge, part.asLong());
                 }
             }
-            return (int) edge;
+            return edge;
         }
 
         int howManyAre(int state) {
@@ -1223,19 +1328,22 @@ public final class DeadlineShare {
         }
 
         void enter(Task t) {
-            int w = weightOfAll();
-            long sum = w > 0 ? sumOfV() : rest;
-            t.v = difference(sum, Math.max(1, w), t.carried(terms.carry), (long) t.lagWeight * t.weight);
+            int w = sumUp();
+            int by = t.lagWeight * t.weight;
+            t.putCarried(terms.carry, part);
+            sum.multiply(by);
+            sum.addTimesWide(-w, part);
+            sum.divide(w * by);
+            t.v = sum.asLong();
             t.left = t.slice;
             t.wait = 0;
             t.state = ON;
         }
 
         void depart(Task t, int newState) {
-            int w = weightOfAll();
-            t.lag = t.weight * (sumOfV() - t.v * w);
-            t.lagWeight = w;
-            if (w == t.weight) {
+            putLag(t, t.lag);
+            t.lagWeight = weightOfAll();
+            if (t.lagWeight == t.weight) {
                 rest = t.v;
             }
             t.state = newState;
@@ -1246,9 +1354,12 @@ public final class DeadlineShare {
 
         void weighAnew(Task t, int weight) {
             if (t.isOn()) {
-                int w = weightOfAll();
-                long sum = sumOfV();
-                t.v = difference(sum, w, t.weight * (sum - t.v * w), (long) w * weight);
+                // V less LAG by the new WEIGHT, all above W times the new WEIGHT
+                int w = sumUp();
+                sum.multiply(weight - t.weight);
+                sum.addTimes(t.weight * w, t.v);
+                sum.divide(w * weight);
+                t.v = sum.asLong();
             }
             t.weight = weight;
         }
@@ -1267,28 +1378,14 @@ public final class DeadlineShare {
             return Math.max(1, Math.min(MOST_SLICE, slice));
         }
 
-        /** a by p less b by q, cut once; by wholes and rests, so that no product grows too great. */
-        private static long difference(long a, long p, long b, long q) {
-            if (p <= 0 || q <= 0) {
-                return 0L;
-            }
-            long wholes = Math.floorDiv(a, p) - Math.floorDiv(b, q);
-            long rests = Math.floorMod(a, p) * q - Math.floorMod(b, q) * p;
-            return rests < 0 ? wholes - 1 : wholes;
-        }
-
         // ---- who comes first
 
-        private boolean isEligible(Task t, int w, long sum) {
-            return t.isOn() && t.v * w <= sum;
-        }
-
         int eligibleBits() {
-            int w = weightOfAll();
-            long sum = sumOfV();
+            // v is whole: it is above V just if it is above V cut
+            long highest = wholeV();
             int bits = 0;
             for (int i = 0; i < count; i++) {
-                if (isEligible(tasks[i], w, sum)) {
+                if (tasks[i].isOn() && tasks[i].v <= highest) {
                     bits |= 1 << i;
                 }
             }
@@ -1307,14 +1404,10 @@ public final class DeadlineShare {
         }
 
         private int howManyEarlier(Task t, int bits) {
-            long deadline = t.deadline();
             int many = 0;
             for (int i = 0; i < count; i++) {
-                if ((bits >> i & 1) == 1) {
-                    long other = tasks[i].deadline();
-                    if (other < deadline || (other == deadline && i < t.number)) {
-                        many++;
-                    }
+                if ((bits >> i & 1) == 1 && tasks[i].comesBefore(t)) {
+                    many++;
                 }
             }
             return many;
@@ -1332,18 +1425,12 @@ public final class DeadlineShare {
         }
 
         int firstDeadline(boolean onlyEligible) {
-            int w = weightOfAll();
-            long sum = sumOfV();
+            long highest = onlyEligible ? wholeV() : Long.MAX_VALUE;
             int first = NONE;
-            long earliest = 0L;
             for (int i = 0; i < count; i++) {
                 Task t = tasks[i];
-                if (onlyEligible ? isEligible(t, w, sum) : t.isOn()) {
-                    long deadline = t.deadline();
-                    if (first == NONE || deadline < earliest) {
-                        first = i;
-                        earliest = deadline;
-                    }
+                if (t.isOn() && t.v <= highest && (!has(first) || t.comesBefore(tasks[first]))) {
+                    first = i;
                 }
             }
             return first;
@@ -1459,7 +1546,8 @@ public final class DeadlineShare {
 
         private void endRequest(Task t) {
             t.requests++;
-            if (t.v * weightOfAll() < sumOfV()) {
+            putLag(t, part);
+            if (part.isAbove(0L)) {
                 t.late++;
             }
             t.left = t.slice;
