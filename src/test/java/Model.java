@@ -31,10 +31,13 @@ final class Model {
             BigInteger[] qr = num.divideAndRemainder(den);
             return qr[1].signum() < 0 ? qr[0].subtract(BigInteger.ONE) : qr[0];
         }
+        /** Its lower 64 bits, if a long can't be it. */
         long whole() {
             if (!den.equals(BigInteger.ONE)) throw new IllegalStateException("not whole");
-            return num.longValueExact();
+            return num.longValue();
         }
+        /** v is a long: what a long can't be comes round. */
+        BigInteger floorAsLong() { return BigInteger.valueOf(floor().longValue()); }
     }
 
     static final Frac ZERO = Frac.of(0);
@@ -131,7 +134,7 @@ final class Model {
             case 2 -> t.lag.min(most).max(ZERO.minus(most));
             default -> t.lag.min(ZERO);
         };
-        t.v = bigV(x).minus(carried.by(t.weight)).floor();
+        t.v = bigV(x).minus(carried.by(t.weight)).floorAsLong();
         t.left = t.slice;
         t.wait = 0;
         t.kind = Kind.ON;
@@ -152,7 +155,7 @@ final class Model {
     static void toWeigh(World x, T t, int weight) {
         if (t.on()) {
             Frac v = bigV(x);
-            t.v = v.minus(lag(x, t).by(weight)).floor();
+            t.v = v.minus(lag(x, t).by(weight)).floorAsLong();
         }
         t.weight = weight;
     }
@@ -246,7 +249,7 @@ final class Model {
     }
 
     private void run(World x, T r) {
-        r.v = Frac.of(r.v).plus(U.by(r.weight)).floor();
+        r.v = Frac.of(r.v).plus(U.by(r.weight)).floorAsLong();
         r.served++;
         if (r.budget != null) r.budget = r.budget - 1;
         for (T t : allOn(x)) {
@@ -374,7 +377,7 @@ final class Model {
         if (!t.on()) return refuse(-4);
         act(8);
         int was = t.left;
-        t.v = t.deadline().floor();
+        t.v = t.deadline().floorAsLong();
         t.left = t.slice;
         if (w.goesOn == task) w.goesOn = -1;
         return fine(was);
@@ -668,8 +671,8 @@ final class Model {
                 least = least.min(lag(p, t));
             }
         }
-        if (what == 0) return Frac.of(greatest.num().multiply(BigInteger.valueOf(100)), greatest.den().multiply(UNIT)).floor().intValueExact();
-        if (what == 1) return Frac.of(least.num().multiply(BigInteger.valueOf(100)), least.den().multiply(UNIT)).floor().intValueExact();
+        if (what == 0) return Frac.of(greatest.num().multiply(BigInteger.valueOf(100)), greatest.den().multiply(UNIT)).floor().intValue();
+        if (what == 1) return Frac.of(least.num().multiply(BigInteger.valueOf(100)), least.den().multiply(UNIT)).floor().intValue();
         return what == 2 ? changes : idle;
     }
 

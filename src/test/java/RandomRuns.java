@@ -18,7 +18,7 @@ public final class RandomRuns {
 
     private RandomRuns(long seed) {
         r = new Random(seed);
-        profile = (int) (seed % 6);
+        profile = (int) (seed % 8);
     }
 
     public static void main(String[] args) {
@@ -36,7 +36,8 @@ public final class RandomRuns {
     }
 
     private boolean play() {
-        for (int i = 0; i < CALLS && !wrong; i++) {
+        int first = profile >= 6 ? grow() : 0;
+        for (int i = first; i < CALLS && !wrong; i++) {
             call(i);
             if (i % 16 == 0) lookAtAll();
         }
@@ -87,7 +88,7 @@ public final class RandomRuns {
     private void call(int i) {
         int k = r.nextInt(100);
         if (i < 12 && k < 80) k = r.nextInt(3) == 0 ? 20 : 12;
-        if (profile == 5 && i >= 12) k = FEW_TICKS[k % FEW_TICKS.length];
+        if ((profile == 5 || profile == 6) && i >= 12) k = FEW_TICKS[k % FEW_TICKS.length];
         if (k < 12) paper();
         else if (k < 17) newTask();
         else if (k < 29) join();
@@ -105,10 +106,34 @@ public final class RandomRuns {
         else look();
     }
 
+    /** Three that drive each other apart, each round about twice as far: up to where a long ends, and beyond. */
+    private int grow() {
+        int a = r.nextInt(3), b = (a + 1 + r.nextInt(2)) % 3, c = 3 - a - b, yields = 1 + r.nextInt(10), rounds = 16 + r.nextInt(12);
+        for (int i = 0; i < 3; i++) due("task(1, 20)", x.task(1, 20), m.task(1, 20));
+        for (int i = 0; i < 3; i++) due("join(" + i + ")", x.join(i), m.join(i));
+        for (int i = 0; i < yields; i++) due("yields(" + a + ")", x.yields(a), m.yields(a));
+        for (int i = 0; i < rounds; i++) {
+            driveApart(a, b, c);
+            driveApart(a, c, b);
+            lookAtAll();
+        }
+        return 6 + yields + 12 * rounds;
+    }
+
+    private void driveApart(int a, int b, int c) {
+        weigh(c, 8);
+        weigh(a, 1);
+        due("leave(" + b + ")", x.leave(b), m.leave(b));
+        weigh(c, 1);
+        weigh(a, 8);
+        due("join(" + b + ")", x.join(b), m.join(b));
+    }
+
     private void newTask() { int a = in(1, profile == 1 ? 8 : 3), b = in(1, 20); due("task(" + a + ", " + b + ")", x.task(a, b), m.task(a, b)); }
     private void join() { int t = someTask(); due("join(" + t + ")", x.join(t), m.join(t)); }
     private void leave() { int t = someTask(); due("leave(" + t + ")", x.leave(t), m.leave(t)); }
-    private void weigh() { int t = someTask(), a = in(1, 8); due("weigh(" + t + ", " + a + ")", x.weigh(t, a), m.weigh(t, a)); }
+    private void weigh() { weigh(someTask(), in(1, 8)); }
+    private void weigh(int t, int a) { due("weigh(" + t + ", " + a + ")", x.weigh(t, a), m.weigh(t, a)); }
     private void yields() { int t = someTask(); due("yields(" + t + ")", x.yields(t), m.yields(t)); }
     private void undo() { due("undo()", x.undo(), m.undo()); }
     private void listing() { int t = scripted(); due("listing(" + t + ")", x.listing(t), m.listing(t)); }
