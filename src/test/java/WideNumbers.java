@@ -10,6 +10,7 @@ public final class WideNumbers {
         whatStands();
         joinAheadOfV();
         joinBehindV();
+        joinWithLittleTooMuch();
         weigh();
         served();
         would();
@@ -82,6 +83,25 @@ public final class WideNumbers {
             x.terms(1, carry);
             x.join(0);
             due(7, "v by CARRY " + carry, x.exact(0, 0), v[carry]);
+        }
+    }
+
+    /** LAG times W is above what CARRY 2 leaves of it by less than 2 to the 32nd. */
+    private static void joinWithLittleTooMuch() {
+        long unit = 5_354_228_880L;
+        for (int way = 0; way < 2; way++) {
+            DeadlineShare x = new DeadlineShare();
+            x.task(1, 1);
+            x.task(2, 1);
+            x.join(0);
+            x.join(1);
+            for (int i = 0; i < 4; i++) x.yields(1);
+            x.weigh(1, 1);
+            x.terms(1, 2);
+            x.leave(way);
+            due(22, "exact(" + way + ", 3)", x.exact(way, 3), way == 0 ? 8 * unit / 3 : -8 * unit / 3);
+            x.join(way);
+            due(7, "v", x.exact(way, 0), way == 0 ? 5 * unit / 3 : unit);
         }
     }
 
