@@ -801,6 +801,17 @@ public final class Promises {
         x.ticks(5);
         due(21, "v like V is not late", x.of(0, 6), 9);
         due(21, "REQUESTS", x.of(0, 5), 10);
+        x = joined(1, 1, 1, 1, 8, 1);
+        x.weigh(2, 7);
+        x.ticks(1);
+        int[][] weighs = {{2, 6}, {1, 6}, {1, 1}};
+        for (int[] w : weighs) x.weigh(w[0], w[1]);
+        x.yields(0);
+        x.weigh(2, 5);
+        x.leave(2);
+        x.ticks(1);
+        due(22, "V is above v by a half of 1", x.exact(1, 2), 1);
+        due(21, "LATE by the least", x.of(1, 6), 1);
     }
 
     private static void undo() {
