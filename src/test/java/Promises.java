@@ -1,9 +1,5 @@
 /** For each promise of the document: ordinary calls, the edges that it names, and wrong numbers. */
-public final class Promises {
-    private static final int NONE = -1;
-    private static final long NOTHING = Long.MIN_VALUE;
-    private static final int REFUSED_ON_PAPER = Integer.MIN_VALUE;
-    private static final long U = 5_354_228_880L;
+public final class Promises extends Calls {
     private static int checks = 0;
     private static int wrong = 0;
 
@@ -61,45 +57,6 @@ public final class Promises {
             wrong++;
             System.out.println("promise " + promise + ": " + call + " answered " + got + ", due is " + want);
         }
-    }
-
-    /** The TAPE has just this text then. */
-    private static void put(DeadlineShare x, String text) {
-        x.end(0);
-        for (int i = 0; i < text.length(); i += 20) {
-            int[] f = new int[5];
-            for (int j = 0; j < 20; j++) f[j / 4] = f[j / 4] << 8 | (i + j < text.length() ? text.charAt(i + j) : ' ');
-            x.feed(f[0], f[1], f[2], f[3], f[4]);
-        }
-        x.end(text.length());
-    }
-
-    private static int script(DeadlineShare x, int task, String text) {
-        put(x, text);
-        return x.script(task);
-    }
-
-    private static String onTape(DeadlineShare x) {
-        StringBuilder b = new StringBuilder();
-        for (int i = 0; i < x.count(7); i++) b.append((char) x.tape(i));
-        return b.toString();
-    }
-
-    /** Tasks of weight and slice pairs, all ON. */
-    private static DeadlineShare joined(int... pairs) {
-        DeadlineShare x = new DeadlineShare();
-        for (int i = 0; i < pairs.length; i += 2) {
-            x.task(pairs[i], pairs[i + 1]);
-            x.join(i / 2);
-        }
-        return x;
-    }
-
-    /** Who ran in the TICKS a to b (without b), a digit each, '.' for NONE. */
-    private static String whoRan(DeadlineShare x, int a, int b) {
-        StringBuilder s = new StringBuilder();
-        for (int t = a; t < b; t++) s.append(x.ran(t) == NONE ? "." : Integer.toString(x.ran(t)));
-        return s.toString();
     }
 
     private static void dueText(int promise, String call, String got, String want) {
@@ -208,13 +165,6 @@ public final class Promises {
         due(7, "leave(0)", x.leave(0), 16);
         due(7, "join(3)", x.join(3), 17);
         due(7, "it joins at V", x.exact(3, 0), x.time(0));
-    }
-
-    /** A and B of weight 1 and slice 4: A yields, so its LAG is -2 U, B's 2 U. */
-    private static DeadlineShare yielded() {
-        DeadlineShare x = joined(1, 4, 1, 4);
-        x.yields(0);
-        return x;
     }
 
     private static long joinsAt(int carry, int task, int slice, int weight) {
@@ -856,16 +806,10 @@ public final class Promises {
         undoAll();
     }
 
-    /** A busy object: everything that can be told is as it was, behind each undo() and behind back(). */
+    /** Everything that can be told is as it was, behind undo() and behind back(). */
     private static void undoAll() {
-        DeadlineShare x = joined(1, 2, 3, 4, 2, 3);
-        script(x, 0, "run 2,nap 30,run 5");
-        x.quota(2, 2, 30);
-        x.yields(1);
-        x.ticks(40);
-        x.ticks(9);
-        String before = all(x);
-        x.image(1);
+        String before = all(busy());
+        DeadlineShare x = busy();
         x.ticks(7);
         x.leave(1);
         x.ticks(60);
@@ -873,19 +817,33 @@ public final class Promises {
         x.yields(1);
         for (int i = 0; i < 5; i++) x.undo();
         dueText(18, "all is as it was", all(x), before);
-        String after = all(x);
-        x.leave(0);
-        x.leave(1);
-        x.leave(2);
+        x = busy();
+        for (int t = 0; t < 3; t++) x.leave(t);
         x.ticks(60);
         for (int i = 0; i < 4; i++) x.undo();
-        dueText(18, "all is as it was", all(x), after);
+        dueText(18, "all is as it was", all(x), before);
+        x = busy();
+        x.image(1);
         x.ticks(60);
         x.leave(1);
         x.join(1);
         x.leave(0);
         x.back(1);
         dueText(20, "all is as it was", all(x), before);
+        nothingOfOneThatIsGone();
+    }
+
+    private static DeadlineShare busy() {
+        DeadlineShare x = joined(1, 2, 3, 4, 2, 3);
+        script(x, 0, "run 2,nap 30,run 5");
+        x.quota(2, 2, 30);
+        x.yields(1);
+        x.ticks(40);
+        x.ticks(9);
+        return x;
+    }
+
+    private static void nothingOfOneThatIsGone() {
         DeadlineShare y = new DeadlineShare();
         y.image(0);
         y.task(8, 20);
@@ -1290,23 +1248,33 @@ public final class Promises {
         return b.append(' ').append(x.status()).append(' ').append(x.fault()).toString();
     }
 
-    private static void paperChangesNothing() {
+    private static DeadlineShare inItsMidst() {
         DeadlineShare x = joined(1, 5, 2, 3, 3, 2);
         script(x, 0, "run 2,nap 3,weigh 2,again 9");
         x.quota(1, 3, 7);
         x.ticks(11);
         x.join(77);
-        String before = allAndTold(x);
+        return x;
+    }
+
+    private static void paperChangesNothing() {
+        String before = allAndTold(inItsMidst());
+        DeadlineShare x = inItsMidst();
         x.ahead(30);
         dueText(31, "ahead(30) changes nothing", allAndTold(x), before);
+        x = inItsMidst();
         x.finish(0);
         dueText(32, "finish(0) changes nothing", allAndTold(x), before);
+        x = inItsMidst();
         x.due(1);
         dueText(33, "due(1) changes nothing", allAndTold(x), before);
+        x = inItsMidst();
         x.least(2, 20, 30);
         dueText(34, "least(2, 20, 30) changes nothing", allAndTold(x), before);
+        x = inItsMidst();
         for (int way = 0; way < 5; way++) x.would(way, 30, 0);
         dueText(35, "would(..) changes nothing", allAndTold(x), before);
+        x = inItsMidst();
         StringBuilder told = new StringBuilder();
         for (int n = 1; n <= 25; n++) told.append(x.ahead(n) == NONE ? "." : Integer.toString(x.ahead(n)));
         x.ticks(25);

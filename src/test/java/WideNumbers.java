@@ -29,7 +29,7 @@ public final class WideNumbers {
     }
 
     /** Three of which 0 yields, then rounds in each of which their v come about twice as far apart. */
-    private static DeadlineShare driven(int yields, int rounds) {
+    static DeadlineShare driven(int yields, int rounds) {
         DeadlineShare x = new DeadlineShare();
         for (int i = 0; i < 3; i++) x.task(1, 20);
         for (int i = 0; i < 3; i++) x.join(i);
