@@ -41,7 +41,9 @@ public final class ActSentences extends Sentences {
         }
         for (int k = 0; k < 6; k++) b.append(x.count(k)).append(' ');
         for (int k = 0; k < 4; k++) b.append(x.time(k)).append(' ');
-        return b.append(x.count(16)).append(' ').append(whoRan(x, 0, 12)).append(x.would(0, 9, 1)).toString();
+        for (int way = 0; way <= 4; way++) b.append(x.would(way, 9, 2)).append(' ').append(x.would(way, 9, 1)).append(' ');
+        b.append(x.eligible()).append(' ').append(x.earliest(1)).append(' ').append(x.rank(0)).append(' ');
+        return b.append(x.count(16)).append(' ').append(whoRan(x, 0, 12)).toString();
     }
 
     private static void aNewObject() {
@@ -154,6 +156,19 @@ public final class ActSentences extends Sentences {
         for (int k = 0; k < off.length; k++) due("of(1, " + k + ")", x.of(1, k), off[k]);
         due("exact(1, 3)", x.exact(1, 3), 0);
         due("count(0)", x.count(0), 2);
+        DeadlineShare y = joined(1, 5);
+        y.image(0);
+        y.task(2, 9);
+        y.quota(1, 9, 10);
+        script(y, 1, "run 99");
+        y.yields(0);
+        y.ticks(60);
+        due("one that is LATE", y.of(1, 6) > 0 ? 1 : 0, 1);
+        due("and has a LAG", y.exact(1, 3) == 0 ? 0 : 1, 1);
+        y.back(0);
+        due("behind one that is gone", y.task(8, 20), 1);
+        for (int k = 0; k < off.length; k++) due("of(1, " + k + ") is its own", y.of(1, k), off[k]);
+        due("exact(1, 3)", y.exact(1, 3), 0);
         says("-1;");
         int[][] wrong = {{0, 1}, {9, 1}, {1, 0}, {1, 21}, {-1, 1}, {1, -1}, {MIN, 1}, {1, MAX}};
         for (int[] w : wrong) due("task(" + w[0] + ", " + w[1] + ")", x.task(w[0], w[1]), -1);
@@ -567,6 +582,9 @@ public final class ActSentences extends Sentences {
         due("it can be read", x.script(0), 5);
         script(x, 0, "slice 20,slice 20,slice 20,slice 20,slice 20,slice 20,slice 20,run 99");
         due("the longest", x.listing(0), 69);
+        script(x, 0, "run 99,nap 90,slice 19,slice 11,run 81,run 9");
+        x.listing(0);
+        dueText("the TAPE", onTape(x), "run 99,nap 90,slice 19,slice 11,run 81,run 9");
         script(x, 0, "run 1");
         due("the shortest", x.listing(0), 5);
         script(x, 0, "nap 9,run 5");
@@ -680,6 +698,8 @@ public final class ActSentences extends Sentences {
             dueText("all behind the undo() of act " + k, world(x), fresh);
             due("count(6)", x.count(6), Math.min(9, kept));
         }
+        undoneTasks();
+        undoneLog();
         DeadlineShare x = joined(1, 3, 1, 3);
         x.ticks(1);
         x.terms(0, 1);
@@ -702,6 +722,38 @@ public final class ActSentences extends Sentences {
         due("undo() behind the last", x.undo(), -4);
         due("status()", x.status(), -4);
         due("count(10)", x.count(10), 1);
+    }
+
+    private static void undoneTasks() {
+        DeadlineShare x = joined(1, 5);
+        x.task(8, 1);
+        x.join(1);
+        script(x, 1, "run 9");
+        x.ticks(2);
+        for (int i = 0; i < 4; i++) due("undo()", x.undo(), new int[] {6, 5, 1, 0}[i]);
+        dueText("all without the TASK", world(x), world(joined(1, 5)));
+        x.task(8, 1);
+        script(x, 1, "nap 9");
+        for (int i = 0; i < 2; i++) x.undo();
+        dueText("all without the TASK that did NAP", world(x), world(joined(1, 5)));
+    }
+
+    private static void undoneLog() {
+        DeadlineShare x = joined(1, 1, 1, 1);
+        ticks(x, 131);
+        x.ticks(60);
+        x.undo();
+        dueText("the LOG", whoRan(x, 2, 13), ".1010101010");
+        due("service(0, 3, 131)", x.service(0, 3, 131), 64);
+        x = joined(1, 5);
+        x.ticks(3);
+        x.leave(0);
+        x.join(0);
+        x.ticks(2);
+        x.leave(0);
+        due("REST", x.time(0), 5 * U);
+        for (int i = 0; i < 3; i++) x.undo();
+        due("REST as it was", x.time(0), 3 * U);
     }
 
     private static void undo() {
@@ -774,6 +826,28 @@ public final class ActSentences extends Sentences {
         x.image(1);
         x.back(0);
         dueText("all behind back(0)", world(x), fresh);
+        x = joined(1, 1, 1, 1);
+        ticks(x, 131);
+        x.image(0);
+        x.leave(0);
+        ticks(x, 60);
+        x.back(0);
+        dueText("the LOG", whoRan(x, 2, 13), ".1010101010");
+        due("service(0, 3, 131)", x.service(0, 3, 131), 64);
+        x = joined(1, 5);
+        x.ticks(3);
+        x.leave(0);
+        x.image(1);
+        x.join(0);
+        x.ticks(2);
+        x.leave(0);
+        x.back(1);
+        due("REST", x.time(0), 3 * U);
+        x.image(0);
+        x.ticks(4);
+        x.undo();
+        due("an undo() does not touch it", x.back(1), 3);
+        due("nor the other one", x.back(0), 3);
         says("but TERMS, the TAPE, FAULT, what is told of REFUSED calls, what can be undone:");
         x = joined(1, 5);
         x.image(0);

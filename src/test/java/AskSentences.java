@@ -271,6 +271,8 @@ public final class AskSentences extends Sentences {
         y.yields(1);
         due("rank(1)", y.rank(1), 2);
         due("rank(2)", y.rank(2), 1);
+        DeadlineShare all = twelve("run 9");
+        for (int t = 0; t < 12; t++) due("rank(" + t + ") of twelve", all.rank(t), t);
         due("rank(1) of one apart", oneApart().rank(1), 0);
         due("rank(0) of one apart", oneApart().rank(0), 1);
         says("NONE, if it is not ON.");
@@ -403,6 +405,12 @@ public final class AskSentences extends Sentences {
         due("worst(0, 1): TICKS 2 to 4", z.worst(0, 1), -3 * U / 4);
         due("worst(1, 0): TICKS 2 to 4", z.worst(1, 0), 3 * U / 4);
         due("worst(1, 1): TICK 1, or TICKS 1 to 5", z.worst(1, 1), -3 * U / 4);
+        DeadlineShare full = joined(1, 1, 1, 1);
+        ticks(full, 127);
+        full.yields(1);
+        full.ticks(1);
+        dueText("ran", whoRan(full, 0, 2) + whoRan(full, 125, 128), "01100");
+        due("a full LOG does not go round: TICKS 126 and 127", full.worst(0, 0), U);
         says("NOTHING (no such TASK, window; others).");
         due("worst(2, 0)", z.worst(2, 0), NOTHING);
         due("worst(-1, 1)", z.worst(-1, 1), NOTHING);
@@ -522,7 +530,10 @@ public final class AskSentences extends Sentences {
         x.task(5, 1);
         due("of one that is OFF", x.least(0, 0, 5), 1);
         x = yielded();
-        due("TO WEIGH keeps LAG: 1 runs at once", x.least(1, 4, 4), 1);
+        due("1 runs at once", x.least(1, 4, 4), 1);
+        x = joined(1, 1, 1, 1);
+        x.yields(0);
+        due("TO WEIGH keeps LAG: by 3 v is 2 U by 3, so 1 0 0", x.least(0, 2, 3), 3);
         says("those without room aside)");
         x = joined(1, 1, 8, 1, 8, 1, 6, 1);
         due("2 has room: 24", x.least(0, 2, 24), 2);
@@ -557,6 +568,12 @@ public final class AskSentences extends Sentences {
         for (int way = 0; way <= 4; way++) due("would(" + way + ", 1, 2)", x.would(way, 1, 2), 1);
         for (int way = 0; way < 4; way++) due("would(" + way + ", 60, 2): by turns", x.would(way, 60, 2), 60);
         due("nothing is done", x.time(3), 0);
+        x = twelve("run 9");
+        // by WAY 2 each has the first DEADLINE till its REQUEST is served
+        int[] changes = {12, 12, 3, 12};
+        for (int way = 0; way <= 3; way++) due("would(" + way + ", 12, 2) of twelve", x.would(way, 12, 2), changes[way]);
+        due("would(4, 60, 3) of twelve", x.would(4, 60, 3), 0);
+        x = joined(1, 1, 1, 1);
         says("of all LAGS of TASKS ON behind each of these (behind (d)) the greatest (what 0),");
         due("a half", x.would(0, 1, 0), 50);
         due("behind each: the second evens it", x.would(0, 2, 0), 50);
@@ -613,12 +630,17 @@ public final class AskSentences extends Sentences {
         DeadlineShare x = four();
         says("0 TASKS,");
         due("count(0)", x.count(0), 4);
+        due("all twelve", twelve("run 9").count(0), 12);
         says("1 how many are ON,");
         due("count(1)", x.count(1), 1);
+        due("all twelve", twelve("run 9").count(1), 12);
         says("2 how many NAP,");
         due("count(2)", x.count(2), 1);
+        due("all twelve", twelve("nap 9").count(2), 12);
         says("3 how many have a SCRIPT,");
         due("count(3)", x.count(3), 2);
+        due("all twelve", twelve("run 9").count(3), 12);
+        due("all twelve that NAP", twelve("nap 9").count(3), 12);
         x.leave(2);
         due("count(3)", x.count(3), 1);
         due("count(2)", x.count(2), 0);
@@ -647,6 +669,13 @@ public final class AskSentences extends Sentences {
         due("count(7)", x.count(7), 20);
         x.end(13);
         due("count(7)", x.count(7), 13);
+    }
+
+    /** Twelve of weight 2, each with this SCRIPT. */
+    private static DeadlineShare twelve(String text) {
+        DeadlineShare x = new DeadlineShare();
+        for (int i = 0; i < 12; i++) script(x, x.task(2, 5), text);
+        return x;
     }
 
     private static void countRefused() {

@@ -46,6 +46,11 @@ class Calls {
 
     /** 0 and 1 of weight 1 are ON: v of 1 is 1 below that of 0, so V is between them. */
     static DeadlineShare oneApart() {
+        return oneApart(1);
+    }
+
+    /** The same, 1 having a new REQUEST of this SLICE. */
+    static DeadlineShare oneApart(int slice) {
         DeadlineShare x = joined(1, 1, 1, 1, 8, 1);
         x.weigh(2, 7);
         x.ticks(1);
@@ -55,6 +60,7 @@ class Calls {
         x.yields(0);
         x.weigh(2, 5);
         x.leave(2);
+        if (slice != 1) x.slice(1, slice);
         x.ticks(1);
         return x;
     }

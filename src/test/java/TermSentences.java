@@ -436,7 +436,7 @@ public final class TermSentences extends Sentences {
         for (int carry = 0; carry <= 3; carry++) {
             DeadlineShare x = yielded();
             x.terms(1, carry);
-            x.task(3, 3);
+            x.task(1, 3);
             x.join(2);
             due("the first join, CARRY " + carry, x.exact(2, 0), 2 * U);
         }
@@ -485,6 +485,11 @@ public final class TermSentences extends Sentences {
         x.leave(0);
         x.join(0);
         due("less a half is below 0: V and a half, cut", x.exact(0, 0), v);
+        DeadlineShare y = oneApart();
+        y.terms(1, 3);
+        y.leave(1);
+        y.join(1);
+        due("a half is not: V", y.exact(1, 0), v + 1);
         x.weigh(0, 2);
         x.weigh(1, 2);
         x.leave(1);
@@ -669,6 +674,7 @@ public final class TermSentences extends Sentences {
         due("round to 1, which is ON", x.would(3, 1, 2), 1);
         x.leave(1);
         due("round to itself", x.would(3, 3, 2), 0);
+        due("no TICK is IDLE", x.would(3, 3, 3), 0);
         x.leave(2);
         due("none is ON", x.would(3, 3, 3), 3);
         x.join(0);
@@ -721,6 +727,7 @@ public final class TermSentences extends Sentences {
         script(x, 0, "nap 5,run 99");
         script(x, 1, "nap 5,run 99");
         due("no DRAW while none is ON", x.would(4, 45, 2), changes(1, 40, NONE, 1, 2));
+        due("a DRAW of 1", joined(1, 5).would(4, 5, 3), 0);
     }
 
     private static int whose(long seed, int... weights) {

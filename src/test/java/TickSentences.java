@@ -114,6 +114,20 @@ public final class TickSentences extends Sentences {
         return x;
     }
 
+    /** 2 and 3 are ON, all of weight 8; at TIME 3 one is not SPENT any more, the other one NAPS no longer. */
+    private static DeadlineShare oneOfEach(int throttled, int napping) {
+        DeadlineShare x = new DeadlineShare();
+        for (int i = 0; i < 4; i++) x.task(8, 5);
+        x.quota(throttled, 1, 3);
+        x.join(throttled);
+        x.ticks(1);
+        script(x, napping, "nap 2,run 9");
+        x.join(2);
+        x.join(3);
+        x.ticks(3);
+        return x;
+    }
+
     private static void nappingOnes() {
         says("one that NAPS till this TIME JOINS and its SCRIPT goes on");
         DeadlineShare x = new DeadlineShare();
@@ -132,6 +146,12 @@ public final class TickSentences extends Sentences {
         x = roomForOne("nap 3,run 5", "nap 3,run 5");
         due("0 joins", x.share(0, 3, 4), U / 3);
         due("then 1 has no room", x.of(1, 2), 2);
+        DeadlineShare y = oneOfEach(0, 1);
+        due("0 is THROTTLED no longer", y.share(0, 3, 4), U / 3);
+        due("then 1 has no room to wake", y.of(1, 2), 2);
+        y = oneOfEach(1, 0);
+        due("0 wakes", y.share(0, 3, 4), U / 3);
+        due("then 1 has no room: THROTTLED", y.of(1, 2), 3);
         says("(without room, or if it is SPENT, it NAPS till TIME and 1 more).");
         due("of(1, 9) behind TIME 3", x.of(1, 9), 4);
         x.ticks(1);
@@ -193,10 +213,13 @@ public final class TickSentences extends Sentences {
         x.ticks(1);
         x.yields(0);
         due("it did YIELD", x.ahead(1), 1);
-        x = byModeOne(1, 3, 1, 3);
+        x = byModeOne(1, 3, 1, 3, 1, 4);
         x.ticks(1);
+        x.slice(2, 1);
         x.yields(1);
-        due("the other one did YIELD", x.ahead(1), 0);
+        due("another one did YIELD", x.ahead(1), 0);
+        x.terms(0, 0);
+        due("by MODE 0", x.ahead(1), 2);
         x = byModeOne(1, 3, 1, 3);
         x.ticks(1);
         x.leave(0);
@@ -221,8 +244,9 @@ public final class TickSentences extends Sentences {
         DeadlineShare x = joined(1, 9, 8, 1);
         x.ticks(10);
         dueText("1 has the first, but is not ELIGIBLE at TIME 1", whoRan(x, 0, 10), "1011111111");
-        x = oneApart();
-        due("1 is ELIGIBLE by a half, 0 is not", x.ahead(1), 1);
+        x = oneApart(9);
+        due("DEADLINE of 0 is the first", x.exact(0, 1) < x.exact(1, 1) ? 1 : 0, 1);
+        due("but it is above V by a half", x.ahead(1), 1);
         says("of like ones the lowest number.");
         x = joined(1, 5, 1, 5, 1, 5);
         x.ticks(4);
@@ -492,8 +516,9 @@ public final class TickSentences extends Sentences {
             read(words[k] + " " + most[k], NONE);
             read(words[k] + " " + (most[k] + 1), place);
         }
-        read("walk 1", 0);
-        read("yield 1", 0);
+        for (String word : new String[] {"walk", "bun", "ran", "rub", "cap", "nip", "nab", "weigt", "splice", "slide", "agaim", "a", "z"}) {
+            read(word + " 1", 0);
+        }
     }
 
     private static void tokens() {
