@@ -139,7 +139,8 @@ public final class AskSentences extends Sentences {
             due("of(-1, " + k + ")", x.of(-1, k), NONE);
             due("of(MAX, " + k + ")", x.of(MAX, k), NONE);
         }
-        due("not REFUSED", x.count(8) + x.count(9) - x.status(), 0);
+        due("not REFUSED: count(8)", x.count(8), 0);
+        due("not REFUSED: count(9)", x.count(9), 0);
     }
 
     private static void exact() {
